@@ -455,13 +455,13 @@ public final class KitchenDrift {
             case 3:
                 return now.sights;
             default:
-                return toldByHundreds(what);
+                return toldByCode(what);
         }
     }
 
     // ---- what several calls share
 
-    private int toldByHundreds(int what) {
+    private int toldByCode(int what) {
         if (what < 10) {
             return OUTSIDE;
         }
@@ -862,7 +862,7 @@ public final class KitchenDrift {
             int most = taste[guest * MOST_ROOMS + own] + company * (crowd[own] - 1);
             for (int room = 0; room < house.rooms; room++) {
                 int door = own * MOST_ROOMS + room;
-                if (gone[door] < wide[door] && crowd[room] < house.sizeOf(room)) {
+                if (gone[door] < wide[door] && crowd[room] < house.measure[room * MEASURES + SIZE]) {
                     int pull = taste[guest * MOST_ROOMS + room] + company * crowd[room];
                     if (pull > most) {
                         most = pull;
