@@ -63,4 +63,50 @@ final class Due {
         x.likes(2, 0, 1);
         return x;
     }
+
+    /**
+     * Six ROOMS and eight GUESTS, all told by digits: the THINGS of each ROOM, its SIZE, the WIDTHS (0 1, 0 2 ..
+     * 4 5), the ROOM of each GUEST, his five LIKES and 3.
+     */
+    static KitchenDrift six(String things, String sizes, String widths, String places, String likes) {
+        KitchenDrift x = new KitchenDrift();
+        x.rooms(6);
+        int door = 0;
+        for (int room = 0; room < 6; room++) {
+            x.room(room, 4, sizes.charAt(room) - '0');
+            for (int sort = 0; sort < 4; sort++) {
+                x.room(room, sort, things.charAt(room * 4 + sort) - '0');
+            }
+            for (int other = room + 1; other < 6; other++) {
+                x.door(room, other, widths.charAt(door++) - '0');
+            }
+        }
+        for (int guest = 0; guest < 8; guest++) {
+            x.guest(guest, places.charAt(guest) - '0');
+            for (int sort = 0; sort < 5; sort++) {
+                x.likes(guest, sort, likes.charAt(guest * 5 + sort) - '3');
+            }
+        }
+        return x;
+    }
+
+    /** So many ROOMS, with DOORS of this WIDTH between all of them. */
+    static KitchenDrift open(int rooms, int width) {
+        KitchenDrift x = new KitchenDrift();
+        x.rooms(rooms);
+        for (int room = 0; room < rooms; room++) {
+            for (int other = room + 1; other < rooms; other++) {
+                x.door(room, other, width);
+            }
+        }
+        return x;
+    }
+
+    /** So many GUESTS, from A on, come to a ROOM. */
+    static KitchenDrift come(KitchenDrift x, int guests, int room) {
+        for (int guest = 0; guest < guests; guest++) {
+            x.guest(guest, room);
+        }
+        return x;
+    }
 }
