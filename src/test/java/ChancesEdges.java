@@ -17,6 +17,7 @@ public final class ChancesEdges {
         tastesOfCompanyAtBothEnds();
         tastesThatContradict();
         tastesBusyOrNot();
+        tastesOfOneInTheDoor();
         tastesChangeNothing();
         drunkRefused();
         drunkForNoTime();
@@ -198,6 +199,21 @@ public final class ChancesEdges {
         x.room(1, 4, 1);
         x.guest(2, 1);
         D.due("30 the room is full", x.tastes(0, 0), 0);
+    }
+
+    /** All else being as it is, he who stands in the DOOR jams it for himself, too. */
+    private static void tastesOfOneInTheDoor() {
+        KitchenDrift x = Due.open(2, 1);
+        x.guest(0, 0);
+        x.room(1, 0, 1);
+        x.seen(0, 1);
+        Due.doing(x, "Ab");
+        D.due("30 he jams the door himself", x.tastes(0, 0), 0);
+        x.door(0, 1, 2);
+        D.due("30 he jams it himself, it is wide", x.tastes(0, 0), 112);
+        x.door(0, 1, 1);
+        Due.doing(x, "A^");
+        D.due("30 he stepped out", x.tastes(0, 0), 112);
     }
 
     private static void tastesChangeNothing() {
